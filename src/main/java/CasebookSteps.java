@@ -781,19 +781,21 @@ public final class CasebookSteps {
         }
 
         boolean isMet(Condition condition) {
+            char sort = condition.sort;
             int a = condition.a;
-            switch (condition.sort) {
-                case DATUM_AT_LEAST:
-                    return a >= 0 && a < DATA && data[a] >= condition.b;
-                case DATUM_LESS:
-                    return a >= 0 && a < DATA && data[a] < condition.b;
-                case EVENT_PRESENT:
-                    return present == a;
-                case STEP_COMPLETED:
-                    return a >= 0 && a < MAX_STEPS && states[a] == COMPLETED;
-                default:
-                    return age >= a;
+            if (sort == DATUM_AT_LEAST) {
+                return a >= 0 && a < DATA && data[a] >= condition.b;
             }
+            if (sort == DATUM_LESS) {
+                return a >= 0 && a < DATA && data[a] < condition.b;
+            }
+            if (sort == EVENT_PRESENT) {
+                return present == a;
+            }
+            if (sort == STEP_COMPLETED) {
+                return a >= 0 && a < MAX_STEPS && states[a] == COMPLETED;
+            }
+            return sort == DAYS_PASSED && age >= a;
         }
 
         int valueOf(int datum) {

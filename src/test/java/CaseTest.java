@@ -185,6 +185,12 @@ public final class CaseTest {
         Check.same("setWaiting false once more", x.setWaiting(0, false), false);
         x.pass(1);
         Check.same("clock of a case that went on", x.clock(0, 0), 1);
+        x.addPlan();
+        x.addStep(1, 't', -1);
+        x.move(1, 1);
+        x.setWaiting(1, true);
+        x.setWaiting(1, false);
+        Check.same("planOf a case that waited", x.planOf(1), 1);
         Check.same("happened", x.happened(0), 9);
         Check.same("rounds", x.rounds(0), 0);
         for (int number : NO_NUMBERS) {

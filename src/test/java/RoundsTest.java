@@ -14,6 +14,7 @@ public final class RoundsTest {
         endingStopsAtStepsThatAreOver();
         milestonesComeAgain();
         milestonesInStagesThatAreOverFallBack();
+        fallingBackIsAChange();
         activeMilestonesStay();
         twentyRoundsAtMost();
         longChains();
@@ -210,6 +211,21 @@ public final class RoundsTest {
         Check.same("entered again", Check.states(x, 0), "ccc");
         Check.same("count", x.count(0, 0), 2);
         Check.same("count of one without conditions", x.count(0, 2), 1);
+    }
+
+    private static void fallingBackIsAChange() {
+        CasebookSteps x = plan("mm", -1, -1);
+        x.setAgain(0, 0, true);
+        x.setAgain(0, 1, true);
+        x.addEntry(0, 0, 'c', 1, 0);
+        x.addEntry(0, 1, 'd', 0, 1);
+        x.begin(0);
+        x.set(0, 0, 1);
+        Check.same("both completed", Check.states(x, 0), "cc");
+        Check.same("rounds", x.rounds(0), 2);
+        x.set(0, 0, 0);
+        Check.same("the one falls back after the other", Check.states(x, 0), "ii");
+        Check.same("rounds", x.rounds(0), 2);
     }
 
     private static void milestonesInStagesThatAreOverFallBack() {

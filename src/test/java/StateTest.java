@@ -10,6 +10,7 @@ public final class StateTest {
         stateAndReplay();
         clockAndReplay();
         replayTellsCasesApart();
+        replayBeginsAnew();
         replayOfLongRuns();
         count();
         isLateAndDaysLeft();
@@ -131,6 +132,25 @@ public final class StateTest {
         }
     }
 
+    /** What one case has become must not show in the replay of the next. */
+    private static void replayBeginsAnew() {
+        CasebookSteps x = four();
+        x.addPlan();
+        x.addStep(1, 't', -1);
+        x.addStep(1, 't', -1);
+        x.begin(0);
+        x.set(0, 1, 9);
+        x.pass(5);
+        x.setWaiting(0, true);
+        x.begin(1);
+        x.pass(1);
+        Check.same("clockByReplay of the first", x.clockByReplay(0, 2), 5);
+        Check.same("stateByReplay of the first", x.stateByReplay(0, 0), 'x');
+        Check.same("clockByReplay of the second", x.clockByReplay(1, 1), 1);
+        Check.same("stateByReplay of the second", x.stateByReplay(1, 0), 'a');
+        Check.same("clockByReplay of the first", x.clockByReplay(0, 3), 5);
+    }
+
     /** As many things as the 512 calls of an object can let happen. */
     private static void replayOfLongRuns() {
         CasebookSteps x = new CasebookSteps();
@@ -236,6 +256,7 @@ public final class StateTest {
         Check.same("c: completed", x.holds(0, 0, true, 2), true);
         x.pass(1);
         Check.same("t: 2 of 2 days, while it waits", x.holds(0, 0, false, 0), true);
+        holdsOfEachDatum();
         for (int index : new int[] {-1, 3, 4, Integer.MIN_VALUE, Integer.MAX_VALUE}) {
             Check.refused(x, "no such entry condition", NO_ELEMENT, () -> x.holds(0, 0, true, index));
         }
@@ -243,6 +264,26 @@ public final class StateTest {
         Check.refused(x, "no entry condition", NO_ELEMENT, () -> x.holds(0, 1, true, 0));
         Check.refused(x, "no exit condition of a milestone", NO_ELEMENT, () -> x.holds(0, 2, false, 0));
         Check.refused(x, "no such step, no such condition", INDEX, () -> x.holds(0, 3, false, 3));
+    }
+
+    private static void holdsOfEachDatum() {
+        CasebookSteps x = new CasebookSteps();
+        x.addPlan();
+        x.addStep(0, 't', -1);
+        x.addStep(0, 't', -1);
+        for (int datum = 0; datum < 4; datum++) {
+            x.addEntry(0, datum / 2, 'd', datum, 7);
+            x.addExit(0, datum / 2, 'l', datum, -7);
+        }
+        x.begin(0);
+        for (int datum = 0; datum < 4; datum++) {
+            Check.same("d", x.holds(0, datum / 2, true, datum % 2), false);
+            x.set(0, datum, 7);
+            Check.same("d", x.holds(0, datum / 2, true, datum % 2), true);
+            Check.same("l", x.holds(0, datum / 2, false, datum % 2), false);
+            x.set(0, datum, -8);
+            Check.same("l", x.holds(0, datum / 2, false, datum % 2), true);
+        }
     }
 
     private static void activeAndIsOver() {
