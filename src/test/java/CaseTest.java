@@ -1,44 +1,22 @@
-/** Promises 11 to 17: how cases begin, and what happens to them. */
+/** Promises 11 to 17, ordinary calls: how cases begin, and what happens to them. */
 public final class CaseTest {
-    private static final Class<?> INDEX = IndexOutOfBoundsException.class;
-    private static final Class<?> ARGUMENT = IllegalArgumentException.class;
-    private static final Class<?> UNSUPPORTED = UnsupportedOperationException.class;
-    private static final Class<?> STATE = IllegalStateException.class;
-    private static final int[] NO_NUMBERS = {-1, 4, 5, Integer.MIN_VALUE, Integer.MAX_VALUE};
-
     public static void main(String[] args) {
         begin();
         set();
         event();
-        eventIsPresentOnlyInItsRounds();
         complete();
-        completeRefused();
         setWaiting();
         move();
         moveKeepsWhatSteps();
-        moveRefused();
         pass();
         passLate();
         Check.end("CaseTest");
     }
 
-    private static CasebookSteps oneStep(char kind) {
-        CasebookSteps x = new CasebookSteps();
-        x.addPlan();
-        x.addStep(0, kind, -1);
-        return x;
-    }
-
     private static void begin() {
-        CasebookSteps x = oneStep('t');
+        CasebookSteps x = Engines.of("t", -1);
         x.addPlan();
-        Check.refused(x, "begin with a plan without steps", STATE, () -> x.begin(1));
-        for (int number : new int[] {-1, 2, 3, Integer.MAX_VALUE, Integer.MIN_VALUE}) {
-            Check.refused(x, "begin with no plan", INDEX, () -> x.begin(number));
-        }
         for (int i = 0; i < 4; i++) {
-            int asked = i;
-            Check.refused(x, "days before it began", INDEX, () -> x.days(asked));
             Check.same("begin", x.begin(0), i);
             Check.same("cases", x.cases(), i + 1);
             Check.same("state", x.state(i, 0), 'a');
@@ -49,13 +27,11 @@ public final class CaseTest {
             Check.same("planOf", x.planOf(i), 0);
             Check.same("days", x.days(i), 0);
         }
-        Check.refused(x, "the fifth case", STATE, () -> x.begin(0));
-        Check.refused(x, "the fifth case with no plan", INDEX, () -> x.begin(2));
-        Check.same("isUsed after refusals", x.isUsed(1), false);
+        Check.same("isUsed of the other plan", x.isUsed(1), false);
     }
 
     private static void set() {
-        CasebookSteps x = oneStep('t');
+        CasebookSteps x = Engines.of("t", -1);
         x.addExit(0, 0, 'd', 2, 50);
         x.begin(0);
         x.begin(0);
@@ -72,23 +48,10 @@ public final class CaseTest {
         Check.same("rounds", x.rounds(0), 0);
         Check.same("datum 3", x.set(0, 3, 1), 0);
         Check.same("datum 0", x.set(0, 0, 2), 0);
-        for (int datum : NO_NUMBERS) {
-            Check.refused(x, "set of no datum", ARGUMENT, () -> x.set(0, datum, 0));
-            Check.refused(x, "set in no case", INDEX, () -> x.set(datum, -1, 100));
-        }
-        for (int value : new int[] {-100, 100, Integer.MIN_VALUE, Integer.MAX_VALUE}) {
-            Check.refused(x, "set to " + value, ARGUMENT, () -> x.set(0, 0, value));
-        }
-        Check.refused(x, "set in no case", INDEX, () -> x.set(2, 0, 0));
     }
 
     private static void event() {
-        CasebookSteps x = new CasebookSteps();
-        x.addPlan();
-        x.addStep(0, 's', -1);
-        x.addStep(0, 't', 0);
-        x.addStep(0, 's', 0);
-        x.addStep(0, 't', 2);
+        CasebookSteps x = Engines.of("stst", -1, 0, 0, 2);
         x.addEntry(0, 1, 'e', 9, 0);
         x.addExit(0, 0, 'e', 0, 0);
         x.begin(0);
@@ -100,39 +63,10 @@ public final class CaseTest {
         Check.same("states", Check.states(x, 0), "xxxx");
         Check.same("event at the end", x.event(0, 0), 0);
         Check.same("happened", x.happened(0), 5);
-        for (int event : new int[] {-1, 10, Integer.MIN_VALUE, Integer.MAX_VALUE}) {
-            Check.refused(x, "no such event", ARGUMENT, () -> x.event(0, event));
-            Check.refused(x, "no such event in no case", INDEX, () -> x.event(1, event));
-        }
-        for (int number : NO_NUMBERS) {
-            Check.refused(x, "event in no case", INDEX, () -> x.event(number, 0));
-        }
-    }
-
-    private static void eventIsPresentOnlyInItsRounds() {
-        CasebookSteps x = oneStep('m');
-        x.addEntry(0, 0, 'e', 0, 0);
-        x.setAgain(0, 0, true);
-        x.begin(0);
-        Check.same("before any event", Check.states(x, 0), "i");
-        Check.same("event", x.event(0, 0), 1);
-        Check.same("kept until something else happens", Check.states(x, 0), "c");
-        Check.same("the event is over", x.holds(0, 0, true, 0), false);
-        Check.same("the same event again", x.event(0, 0), 0);
-        Check.same("count", x.count(0, 0), 1);
-        x.set(0, 0, 0);
-        Check.same("after something else", Check.states(x, 0), "i");
-        x.event(0, 0);
-        Check.same("count", x.count(0, 0), 2);
     }
 
     private static void complete() {
-        CasebookSteps x = new CasebookSteps();
-        x.addPlan();
-        x.addStep(0, 's', -1);
-        x.addStep(0, 't', 0);
-        x.addStep(0, 't', 0);
-        x.addStep(0, 'm', -1);
+        CasebookSteps x = Engines.of("sttm", -1, 0, 0, -1);
         x.addEntry(0, 3, 'c', 2, 0);
         x.begin(0);
         Check.same("complete the first", x.complete(0, 1), 0);
@@ -144,32 +78,8 @@ public final class CaseTest {
         Check.same("count", x.count(0, 2), 1);
     }
 
-    private static void completeRefused() {
-        CasebookSteps x = new CasebookSteps();
-        x.addPlan();
-        x.addStep(0, 's', -1);
-        x.addStep(0, 't', -1);
-        x.addStep(0, 'm', -1);
-        x.addStep(0, 't', -1);
-        x.addStep(0, 't', -1);
-        x.addEntry(0, 3, 'e', 1, 0);
-        x.addExit(0, 4, 'e', 2, 0);
-        x.begin(0);
-        Check.refused(x, "complete of an idle task", STATE, () -> x.complete(0, 3));
-        x.complete(0, 1);
-        Check.refused(x, "complete of a completed task", STATE, () -> x.complete(0, 1));
-        x.event(0, 2);
-        Check.refused(x, "complete of an ended task", STATE, () -> x.complete(0, 4));
-        Check.refused(x, "complete of a stage", UNSUPPORTED, () -> x.complete(0, 0));
-        Check.refused(x, "complete of a milestone", UNSUPPORTED, () -> x.complete(0, 2));
-        for (int number : new int[] {-1, 5, 8, Integer.MIN_VALUE, Integer.MAX_VALUE}) {
-            Check.refused(x, "complete of no step", INDEX, () -> x.complete(0, number));
-            Check.refused(x, "complete in no case", INDEX, () -> x.complete(number, 1));
-        }
-    }
-
     private static void setWaiting() {
-        CasebookSteps x = oneStep('t');
+        CasebookSteps x = Engines.of("t", -1);
         x.begin(0);
         x.begin(0);
         Check.same("setWaiting", x.setWaiting(0, true), false);
@@ -185,24 +95,18 @@ public final class CaseTest {
         Check.same("setWaiting false once more", x.setWaiting(0, false), false);
         x.pass(1);
         Check.same("clock of a case that went on", x.clock(0, 0), 1);
-        x.addPlan();
-        x.addStep(1, 't', -1);
+        Engines.withPlan(x, "t", -1);
         x.move(1, 1);
         x.setWaiting(1, true);
         x.setWaiting(1, false);
         Check.same("planOf a case that waited", x.planOf(1), 1);
         Check.same("happened", x.happened(0), 9);
         Check.same("rounds", x.rounds(0), 0);
-        for (int number : NO_NUMBERS) {
-            Check.refused(x, "setWaiting in no case", INDEX, () -> x.setWaiting(number, true));
-        }
     }
 
     private static void move() {
-        CasebookSteps x = oneStep('t');
-        x.addPlan();
-        x.addStep(1, 't', -1);
-        x.addStep(1, 'm', -1);
+        CasebookSteps x = Engines.of("t", -1);
+        Engines.withPlan(x, "tm", -1, -1);
         x.begin(0);
         Check.same("move", x.move(0, 1), 0);
         Check.same("planOf", x.planOf(0), 1);
@@ -218,16 +122,8 @@ public final class CaseTest {
 
     /** States, clocks and counts stay; the new plan's kinds, parents, conditions and limits count. */
     private static void moveKeepsWhatSteps() {
-        CasebookSteps x = new CasebookSteps();
-        x.addPlan();
-        x.addStep(0, 't', -1);
-        x.addStep(0, 't', -1);
-        x.addStep(0, 'm', -1);
-        x.addPlan();
-        x.addStep(1, 's', -1);
-        x.addStep(1, 't', 0);
-        x.addStep(1, 'm', -1);
-        x.addStep(1, 't', 0);
+        CasebookSteps x = Engines.of("ttm", -1, -1, -1);
+        Engines.withPlan(x, "stmt", -1, 0, -1, 0);
         x.setLimit(1, 1, 2);
         x.addEntry(1, 2, 'd', 0, 1);
         x.setAgain(1, 2, true);
@@ -246,38 +142,14 @@ public final class CaseTest {
         x.pass(1);
         Check.same("clock of a stage stands", x.clock(0, 0), 3);
         Check.same("clock of a task runs", x.clock(0, 1), 4);
-        Check.refused(x, "complete of what was a task", UNSUPPORTED, () -> x.complete(0, 0));
         x.set(0, 0, 1);
         Check.same("count goes on", x.count(0, 2), 2);
         Check.same("stateByReplay", x.stateByReplay(0, 2), 'c');
         Check.same("clockByReplay", x.clockByReplay(0, 1), 4);
     }
 
-    private static void moveRefused() {
-        CasebookSteps x = new CasebookSteps();
-        x.addPlan();
-        x.addStep(0, 't', -1);
-        x.addStep(0, 't', -1);
-        x.addPlan();
-        x.addStep(1, 't', -1);
-        x.begin(0);
-        Check.refused(x, "move to a smaller plan", ARGUMENT, () -> x.move(0, 1));
-        Check.same("isUsed after a refusal", x.isUsed(1), false);
-        for (int number : new int[] {-1, 2, 3, 4, Integer.MIN_VALUE, Integer.MAX_VALUE}) {
-            Check.refused(x, "move to no plan", INDEX, () -> x.move(0, number));
-            Check.refused(x, "move of no case", INDEX, () -> x.move(number, 1));
-        }
-        Check.same("addStep after refusals", x.addStep(1, 'm', -1), 1);
-        Check.same("move to a plan of the same size", x.move(0, 1), 0);
-        Check.same("states", Check.states(x, 0), "aa");
-    }
-
     private static void pass() {
-        CasebookSteps x = new CasebookSteps();
-        x.addPlan();
-        x.addStep(0, 't', -1);
-        x.addStep(0, 'm', -1);
-        x.addStep(0, 't', -1);
+        CasebookSteps x = Engines.of("tmt", -1, -1, -1);
         x.addEntry(0, 1, 't', 3, 0);
         x.addEntry(0, 2, 'c', 1, 0);
         x.begin(0);
@@ -293,10 +165,7 @@ public final class CaseTest {
         Check.same("clock in the other case", x.clock(1, 2), 7);
         Check.same("happened", x.happened(0), 13);
         Check.same("rounds on the last day", x.rounds(0), 0);
-        for (int days : new int[] {0, 11, -1, Integer.MIN_VALUE, Integer.MAX_VALUE}) {
-            Check.refused(x, "pass " + days, ARGUMENT, () -> x.pass(days));
-        }
-        CasebookSteps y = oneStep('m');
+        CasebookSteps y = Engines.of("m", -1);
         y.addEntry(0, 0, 't', 10, 0);
         y.begin(0);
         Check.same("pass without tasks", y.pass(9), 0);
@@ -306,11 +175,7 @@ public final class CaseTest {
     }
 
     private static void passLate() {
-        CasebookSteps x = new CasebookSteps();
-        x.addPlan();
-        x.addStep(0, 't', -1);
-        x.addStep(0, 't', -1);
-        x.addStep(0, 's', -1);
+        CasebookSteps x = Engines.of("tts", -1, -1, -1);
         x.setLimit(0, 0, 1);
         x.setLimit(0, 1, 3);
         x.begin(0);

@@ -52,7 +52,7 @@ public final class RandomRunsTest {
         chained = draw(4) == 0;
         for (int i = 0; i < CALLS; i++) {
             int method = methodFor(i < buildingCalls ? BUILDING : HAPPENING, i);
-            Object[] arguments = arguments(programs[method], program);
+            Object[] arguments = arguments(programs[method], model);
             Object due = answer(models[method], model, arguments);
             Object got = answer(programs[method], program, arguments);
             if (!Objects.equals(got, due)) {
@@ -61,14 +61,14 @@ public final class RandomRunsTest {
                 return false;
             }
         }
-        return staysAliveBeyond(program);
+        return staysAliveBeyond(program, model);
     }
 
     /** What later calls answer is free, but the machine itself must still not throw. */
-    private static boolean staysAliveBeyond(CasebookSteps program) throws IllegalAccessException {
+    private static boolean staysAliveBeyond(CasebookSteps program, Model model) throws IllegalAccessException {
         for (int i = 0; i < CALLS_BEYOND; i++) {
             int method = methodFor(HAPPENING, i);
-            Object got = answer(programs[method], program, arguments(programs[method], program));
+            Object got = answer(programs[method], program, arguments(programs[method], model));
             boolean promised = !(got instanceof Class<?> thrown)
                 || Arrays.asList(programs[method].getExceptionTypes()).contains(thrown);
             if (!promised) {
@@ -107,9 +107,10 @@ public final class RandomRunsTest {
         }
     }
 
-    private static Object[] arguments(Method method, CasebookSteps program) {
+    /** Drawn by what the model knows: the program is asked for nothing but its 512 calls. */
+    private static Object[] arguments(Method method, Model model) {
         for (int i = 0; i < planSizes.length; i++) {
-            Object size = sizeOf(program, i);
+            Object size = sizeOf(model, i);
             planSizes[i] = size instanceof Integer known ? known : 0;
         }
         Class<?>[] types = method.getParameterTypes();
@@ -122,14 +123,14 @@ public final class RandomRunsTest {
             } else if (draw(2 * RARELY) == 0) {
                 drawn[i] = EDGES[draw(EDGES.length)];
             } else {
-                drawn[i] = number(method.getName(), i, drawn, program);
+                drawn[i] = number(method.getName(), i, drawn, model);
             }
         }
         return drawn;
     }
 
-    private static Object sizeOf(CasebookSteps program, int plan) {
-        return Check.outcome(() -> program.steps(plan));
+    private static Object sizeOf(Model model, int plan) {
+        return Check.outcome(() -> model.steps(plan));
     }
 
     private static char character(String name) {
@@ -143,7 +144,7 @@ public final class RandomRunsTest {
     }
 
     /** Most drawn numbers should be allowed ones, or the plans stay bare and the cases still. */
-    private static int number(String name, int position, Object[] drawn, CasebookSteps program) {
+    private static int number(String name, int position, Object[] drawn, Model model) {
         int plan = position > 0 && (int) drawn[0] >= 0 && (int) drawn[0] < 3 ? (int) drawn[0] : 0;
         switch (name) {
             case "addStep":
@@ -159,21 +160,21 @@ public final class RandomRunsTest {
             case "set":
                 return position == 2 ? draw(13) - 6 : draw(4);
             case "event":
-                return position == 0 ? someCase(program) : draw(6);
+                return position == 0 ? someCase(model) : draw(6);
             case "begin":
             case "steps":
             case "isUsed":
                 return draw(3);
             case "move":
-                return position == 0 ? someCase(program) : draw(2);
+                return position == 0 ? someCase(model) : draw(2);
             case "pass":
                 return draw(8) == 0 ? draw(12) : 1 + draw(3);
             case "holds":
-                return position == 0 ? someCase(program) : draw(position == 1 ? 8 : 3);
+                return position == 0 ? someCase(model) : draw(position == 1 ? 8 : 3);
             case "datum":
-                return position == 0 ? someCase(program) : draw(4);
+                return position == 0 ? someCase(model) : draw(4);
             default:
-                return position == 0 ? someCase(program) : draw(8);
+                return position == 0 ? someCase(model) : draw(8);
         }
     }
 
@@ -181,8 +182,8 @@ public final class RandomRunsTest {
         return sort == 't' ? draw(40) : sort == 'e' ? draw(6) : draw(sort == 'c' ? 1 + steps : 4);
     }
 
-    private static int someCase(CasebookSteps program) {
-        return draw(RARELY) == 0 ? draw(5) : draw(Math.max(1, program.cases()));
+    private static int someCase(Model model) {
+        return draw(RARELY) == 0 ? draw(5) : draw(Math.max(1, model.cases()));
     }
 
     private static int draw(int below) {

@@ -1,17 +1,10 @@
-/** Promises 18 to 36: what can be read of cases. */
+/** Promises 18 to 36, ordinary calls: what can be read of cases. */
 public final class StateTest {
-    private static final Class<?> INDEX = IndexOutOfBoundsException.class;
-    private static final Class<?> ARGUMENT = IllegalArgumentException.class;
-    private static final Class<?> NO_ELEMENT = java.util.NoSuchElementException.class;
-    private static final int[] NO_NUMBERS = {-1, 1, 2, 4, 8, Integer.MIN_VALUE, Integer.MAX_VALUE};
-
     public static void main(String[] args) {
-        noSuchCaseOrStep();
         stateAndReplay();
         clockAndReplay();
         replayTellsCasesApart();
         replayBeginsAnew();
-        replayOfLongRuns();
         count();
         isLateAndDaysLeft();
         holds();
@@ -24,50 +17,9 @@ public final class StateTest {
         Check.end("StateTest");
     }
 
-    private static void noSuchCaseOrStep() {
-        CasebookSteps x = new CasebookSteps();
-        x.addPlan();
-        x.addStep(0, 't', -1);
-        x.addPlan();
-        x.addStep(1, 't', -1);
-        x.addStep(1, 't', -1);
-        x.begin(0);
-        for (int n : NO_NUMBERS) {
-            readersOfStepsRefuse(x, n, 0);
-            readersOfStepsRefuse(x, 0, n);
-            Check.refused(x, "daysLeft", INDEX, () -> x.daysLeft(n));
-            Check.refused(x, "active", INDEX, () -> x.active(n));
-            Check.refused(x, "isOver", INDEX, () -> x.isOver(n));
-            Check.refused(x, "rounds", INDEX, () -> x.rounds(n));
-            Check.refused(x, "datum", INDEX, () -> x.datum(n, 4));
-            Check.refused(x, "days", INDEX, () -> x.days(n));
-            Check.refused(x, "planOf", INDEX, () -> x.planOf(n));
-            Check.refused(x, "isWaiting", INDEX, () -> x.isWaiting(n));
-            Check.refused(x, "happened", INDEX, () -> x.happened(n));
-            Check.refused(x, "doneShare", INDEX, () -> x.doneShare(n));
-        }
-        x.move(0, 1);
-        Check.same("state of a step of the new plan", x.state(0, 1), 'a');
-    }
-
-    private static void readersOfStepsRefuse(CasebookSteps x, int number, int step) {
-        Check.refused(x, "state", INDEX, () -> x.state(number, step));
-        Check.refused(x, "stateByReplay", INDEX, () -> x.stateByReplay(number, step));
-        Check.refused(x, "clock", INDEX, () -> x.clock(number, step));
-        Check.refused(x, "clockByReplay", INDEX, () -> x.clockByReplay(number, step));
-        Check.refused(x, "count", INDEX, () -> x.count(number, step));
-        Check.refused(x, "isLate", INDEX, () -> x.isLate(number, step));
-        Check.refused(x, "holds", INDEX, () -> x.holds(number, step, true, -1));
-    }
-
     /** A task that ends, a milestone that needs an event, a task that is completed, a task. */
     private static CasebookSteps four() {
-        CasebookSteps x = new CasebookSteps();
-        x.addPlan();
-        x.addStep(0, 't', -1);
-        x.addStep(0, 'm', -1);
-        x.addStep(0, 't', -1);
-        x.addStep(0, 't', -1);
+        CasebookSteps x = Engines.of("tmtt", -1, -1, -1, -1);
         x.addExit(0, 0, 'd', 1, 5);
         x.addEntry(0, 1, 'e', 4, 0);
         return x;
@@ -135,9 +87,7 @@ public final class StateTest {
     /** What one case has become must not show in the replay of the next. */
     private static void replayBeginsAnew() {
         CasebookSteps x = four();
-        x.addPlan();
-        x.addStep(1, 't', -1);
-        x.addStep(1, 't', -1);
+        Engines.withPlan(x, "tt", -1, -1);
         x.begin(0);
         x.set(0, 1, 9);
         x.pass(5);
@@ -149,27 +99,6 @@ public final class StateTest {
         Check.same("clockByReplay of the second", x.clockByReplay(1, 1), 1);
         Check.same("stateByReplay of the second", x.stateByReplay(1, 0), 'a');
         Check.same("clockByReplay of the first", x.clockByReplay(0, 3), 5);
-    }
-
-    /** As many things as the 512 calls of an object can let happen. */
-    private static void replayOfLongRuns() {
-        CasebookSteps x = new CasebookSteps();
-        x.addPlan();
-        x.addStep(0, 't', -1);
-        x.addStep(0, 't', -1);
-        x.addEntry(0, 1, 't', 999, 0);
-        x.begin(0);
-        for (int i = 0; i < 500; i++) {
-            x.pass(10);
-        }
-        Check.same("days", x.days(0), 5000);
-        Check.same("happened", x.happened(0), 5001);
-        Check.same("clock", x.clock(0, 0), 5000);
-        Check.same("clockByReplay", x.clockByReplay(0, 0), 5000);
-        Check.same("clock", x.clock(0, 1), 4001);
-        Check.same("clockByReplay", x.clockByReplay(0, 1), 4001);
-        Check.same("daysWorked", x.daysWorked(), 9001L);
-        Check.same("the 512th call", x.stateByReplay(0, 1), 'a');
     }
 
     private static void count() {
@@ -186,12 +115,7 @@ public final class StateTest {
     }
 
     private static void isLateAndDaysLeft() {
-        CasebookSteps x = new CasebookSteps();
-        x.addPlan();
-        x.addStep(0, 't', -1);
-        x.addStep(0, 't', -1);
-        x.addStep(0, 's', -1);
-        x.addStep(0, 't', -1);
+        CasebookSteps x = Engines.of("ttst", -1, -1, -1, -1);
         x.setLimit(0, 1, 2);
         x.setLimit(0, 3, 1);
         x.addEntry(0, 3, 'e', 0, 0);
@@ -215,19 +139,10 @@ public final class StateTest {
         x.setWaiting(0, false);
         x.event(0, 0);
         Check.same("daysLeft of a task that began now", x.daysLeft(0), 2);
-        x.pass(10);
-        Check.refused(x, "daysLeft when all are late", NO_ELEMENT, () -> x.daysLeft(0));
-        x.complete(0, 0);
-        x.complete(0, 3);
-        Check.refused(x, "daysLeft when none is active", NO_ELEMENT, () -> x.daysLeft(0));
     }
 
     private static void holds() {
-        CasebookSteps x = new CasebookSteps();
-        x.addPlan();
-        x.addStep(0, 's', -1);
-        x.addStep(0, 't', 0);
-        x.addStep(0, 'm', -1);
+        CasebookSteps x = Engines.of("stm", -1, 0, -1);
         x.addEntry(0, 0, 'd', 0, -3);
         x.addEntry(0, 0, 'l', 3, 4);
         x.addEntry(0, 0, 'c', 1, 0);
@@ -257,20 +172,10 @@ public final class StateTest {
         x.pass(1);
         Check.same("t: 2 of 2 days, while it waits", x.holds(0, 0, false, 0), true);
         holdsOfEachDatum();
-        for (int index : new int[] {-1, 3, 4, Integer.MIN_VALUE, Integer.MAX_VALUE}) {
-            Check.refused(x, "no such entry condition", NO_ELEMENT, () -> x.holds(0, 0, true, index));
-        }
-        Check.refused(x, "no such exit condition", NO_ELEMENT, () -> x.holds(0, 0, false, 1));
-        Check.refused(x, "no entry condition", NO_ELEMENT, () -> x.holds(0, 1, true, 0));
-        Check.refused(x, "no exit condition of a milestone", NO_ELEMENT, () -> x.holds(0, 2, false, 0));
-        Check.refused(x, "no such step, no such condition", INDEX, () -> x.holds(0, 3, false, 3));
     }
 
     private static void holdsOfEachDatum() {
-        CasebookSteps x = new CasebookSteps();
-        x.addPlan();
-        x.addStep(0, 't', -1);
-        x.addStep(0, 't', -1);
+        CasebookSteps x = Engines.of("tt", -1, -1);
         for (int datum = 0; datum < 4; datum++) {
             x.addEntry(0, datum / 2, 'd', datum, 7);
             x.addExit(0, datum / 2, 'l', datum, -7);
@@ -287,12 +192,7 @@ public final class StateTest {
     }
 
     private static void activeAndIsOver() {
-        CasebookSteps x = new CasebookSteps();
-        x.addPlan();
-        x.addStep(0, 's', -1);
-        x.addStep(0, 't', 0);
-        x.addStep(0, 't', -1);
-        x.addStep(0, 'm', -1);
+        CasebookSteps x = Engines.of("sttm", -1, 0, -1, -1);
         x.addExit(0, 2, 'e', 3, 0);
         x.addEntry(0, 3, 'd', 0, 1);
         x.begin(0);
@@ -317,15 +217,11 @@ public final class StateTest {
         for (int i = 0; i < 4; i++) {
             Check.same("datum", x.datum(0, i), 10 * i - 99);
         }
-        for (int i : new int[] {-1, 4, Integer.MIN_VALUE, Integer.MAX_VALUE}) {
-            Check.refused(x, "no such datum", ARGUMENT, () -> x.datum(0, i));
-        }
     }
 
     private static void daysPlanOfIsWaiting() {
         CasebookSteps x = four();
-        x.addPlan();
-        x.addStep(1, 'm', -1);
+        Engines.withPlan(x, "m", -1);
         Check.same("begin", x.begin(1), 0);
         x.pass(7);
         Check.same("begin", x.begin(0), 1);
@@ -341,12 +237,7 @@ public final class StateTest {
     }
 
     private static void happenedAndRounds() {
-        CasebookSteps x = new CasebookSteps();
-        x.addPlan();
-        x.addStep(0, 'm', -1);
-        x.addStep(0, 'm', -1);
-        x.addStep(0, 'm', -1);
-        x.addStep(0, 't', -1);
+        CasebookSteps x = Engines.of("mmmt", -1, -1, -1, -1);
         x.addEntry(0, 0, 'c', 1, 0);
         x.addEntry(0, 1, 'c', 2, 0);
         x.addEntry(0, 2, 'e', 5, 0);
@@ -391,9 +282,7 @@ public final class StateTest {
         }
         x.event(0, 0);
         Check.same("an ended step is not completed", x.doneShare(0), 6.0f / 7.0f);
-        CasebookSteps y = new CasebookSteps();
-        y.addPlan();
-        y.addStep(0, 'm', -1);
+        CasebookSteps y = Engines.of("m", -1);
         y.begin(0);
         Check.same("doneShare of all", y.doneShare(0), 1.0f);
     }
