@@ -278,6 +278,14 @@ public final class StateBoundaryTest {
             }
             x.pass(1);
         }
+        for (int first = 0; first < 8; first++) {
+            CasebookSteps y = eightTasks();
+            y.setLimit(0, first, 3);
+            y.begin(0);
+            Check.same("the first one is " + first, y.daysLeft(0), 4);
+            y.complete(0, first);
+            Check.same("the others", y.daysLeft(0), 11);
+        }
         CasebookSteps waits = oneTask();
         waits.begin(0);
         waits.setWaiting(0, true);

@@ -38,6 +38,7 @@ public final class TermsBoundaryTest {
         movedPlanCounts();
         moveEndsNothing();
         refusalsChangeNothing();
+        firstListed();
         Check.end("TermsBoundaryTest");
     }
 
@@ -393,15 +394,16 @@ public final class TermsBoundaryTest {
         Check.same("nothing more", x.rounds(0), 0);
     }
 
-    /** Milestones that follow one another round for ever, once the plan 1 counts for the case. */
+    /** Milestones that follow one another round for ever, in three turns, once the plan 1 counts for the case. */
     private static CasebookSteps ring() {
-        CasebookSteps x = Engines.of("mmm", -1, -1, -1);
-        x.addEntry(0, 0, 'd', 3, 99);
-        x.addEntry(0, 1, 'd', 3, 99);
-        Engines.withPlan(x, "mmm", -1, -1, -1);
+        CasebookSteps x = Engines.of("mmmm", -1, -1, -1, -1);
         for (int i = 0; i < 3; i++) {
+            x.addEntry(0, i, 'd', 3, 99);
+        }
+        Engines.withPlan(x, "mmmm", -1, -1, -1, -1);
+        for (int i = 0; i < 4; i++) {
             x.setAgain(1, i, true);
-            x.addEntry(1, i, 'c', (i + 1) % 3, 0);
+            x.addEntry(1, i, 'c', (i + 1) % 4, 0);
         }
         return Engines.begun(x, 0, 1);
     }
@@ -409,21 +411,23 @@ public final class TermsBoundaryTest {
     private static void roundsAtMost() {
         Check.sentence("Rounds: but at most 20");
         CasebookSteps x = ring();
-        Check.same("before", Check.states(x, 0), "iic");
+        Check.same("before", Check.states(x, 0), "iiic");
         x.move(0, 1);
-        Check.same("rounds", x.rounds(0), 20);
-        Check.same("states", Check.states(x, 0), "cic");
-        for (int step = 0; step < 3; step++) {
-            Check.same("stateByReplay", x.stateByReplay(0, step), x.state(0, step));
-        }
-        Check.same("count", x.count(0, 0), 10);
-        for (int more = 1; more <= 10; more++) {
+        String[] turns = {"icii", "iici", "ciic"};
+        int[] counts = {6, 13, 20};
+        for (int turn = 0; turn < 3; turn++) {
+            Check.same("rounds", x.rounds(0), 20);
+            Check.same("states after so many times 20", Check.states(x, 0), turns[turn]);
+            Check.same("count", x.count(0, 0), counts[turn]);
+            for (int step = 0; step < 4; step++) {
+                Check.same("stateByReplay", x.stateByReplay(0, step), turns[turn].charAt(step));
+            }
             x.pass(1);
-            Check.same("rounds of a day", x.rounds(0), 20);
-            Check.same("count after a day", x.count(0, 0), 10 + 10 * more);
         }
+        Check.same("80 rounds", x.count(0, 0), 26);
         x.pass(10);
-        Check.same("twenty rounds on each day", x.count(0, 0), 210);
+        Check.same("twenty rounds on each day", x.count(0, 0), 93);
+        Check.same("rounds", x.rounds(0), 20);
     }
 
     private static void risingNumbers() {
@@ -666,7 +670,8 @@ public final class TermsBoundaryTest {
     }
 
     private static void dayPasses() {
-        Check.sentence("What happens: first the days increase by 1, whether it waits or not, and the clocks of active tasks");
+        Check.sentence("What happens: first the days increase by 1, whether it waits or not, "
+            + "and the clock of each active task increases by 1");
         CasebookSteps x = Engines.of("tttsm", -1, -1, -1, -1, -1);
         x.addEntry(0, 1, 't', 1, 0);
         x.addExit(0, 2, 't', 1, 0);
@@ -714,7 +719,8 @@ public final class TermsBoundaryTest {
     }
 
     private static void movedSteps() {
-        Check.sentence("Moving: each step keeps its state, its clock and its count; those that it did not have are idle");
+        Check.sentence("Moving: each step keeps its state, its clock and its count; "
+            + "those that it did not have are idle");
         CasebookSteps x = Engines.of("tttm", -1, -1, -1, -1);
         x.addEntry(0, 0, 'd', 0, 1);
         x.addExit(0, 2, 'd', 1, 1);
@@ -851,5 +857,67 @@ public final class TermsBoundaryTest {
         Check.refused("holds", Check.NO_ELEMENT, made, x -> x.holds(0, 2, true, 1));
         Check.refused("stateByReplay", Check.INDEX, made, x -> x.stateByReplay(0, 4));
         Check.refused("clockByReplay", Check.INDEX, made, x -> x.clockByReplay(2, 0));
+    }
+    /** The plan 0 is full and used, its step 0 is a stage with all its conditions, and there are 4 cases. */
+    private static CasebookSteps full() {
+        CasebookSteps x = Engines.of("stmttttt", -1, 0, -1, -1, -1, -1, -1, -1);
+        for (int i = 0; i < 3; i++) {
+            x.addEntry(0, 0, 'd', i, -99);
+            x.addExit(0, 0, 'd', i, 99);
+        }
+        Engines.withPlan(x, "");
+        return Engines.begun(x, 0, 4);
+    }
+
+    /** All that could be wrong with the call is wrong; its place in the list is that of the first. */
+    private static void throwsFirst(String what, Class<?> due, Function<CasebookSteps, Object> call) {
+        Check.answers(what, due.getSimpleName(), TermsBoundaryTest::full, call);
+    }
+
+    private static void firstListed() {
+        Check.sentence("Exceptions: if several exceptions apply, the one that is listed first is thrown");
+        throwsFirst("addStep, plan", Check.INDEX, x -> x.addStep(2, 'q', 1));
+        throwsFirst("addStep, kind", Check.ARGUMENT, x -> x.addStep(0, 'q', -1));
+        throwsFirst("addStep, parent", Check.ARGUMENT, x -> x.addStep(0, 't', 1));
+        throwsFirst("addStep, used and full", Check.STATE, x -> x.addStep(0, 't', 0));
+        throwsFirst("addEntry, plan", Check.INDEX, x -> x.addEntry(2, 0, 'q', -1, 100));
+        throwsFirst("addEntry, step", Check.INDEX, x -> x.addEntry(0, 8, 'q', -1, 100));
+        throwsFirst("addEntry, sort", Check.ARGUMENT, x -> x.addEntry(0, 0, 'q', 0, 0));
+        throwsFirst("addEntry, a", Check.ARGUMENT, x -> x.addEntry(0, 0, 'c', 8, 0));
+        throwsFirst("addEntry, b", Check.ARGUMENT, x -> x.addEntry(0, 0, 'l', 0, 100));
+        throwsFirst("addEntry, used and full", Check.STATE, x -> x.addEntry(0, 0, 'd', 0, 0));
+        throwsFirst("addExit, plan", Check.INDEX, x -> x.addExit(2, 2, 'q', -1, 100));
+        throwsFirst("addExit, step", Check.INDEX, x -> x.addExit(0, 8, 'q', -1, 100));
+        throwsFirst("addExit, sort", Check.ARGUMENT, x -> x.addExit(0, 2, 'q', 0, 0));
+        throwsFirst("addExit, a", Check.ARGUMENT, x -> x.addExit(0, 2, 'e', 10, 0));
+        throwsFirst("addExit, b", Check.ARGUMENT, x -> x.addExit(0, 2, 'd', 0, -100));
+        throwsFirst("addExit, milestone", Check.UNSUPPORTED, x -> x.addExit(0, 2, 'd', 0, 0));
+        throwsFirst("addExit, used and full", Check.STATE, x -> x.addExit(0, 0, 'd', 0, 0));
+        throwsFirst("setRequired, plan", Check.INDEX, x -> x.setRequired(2, 0, true));
+        throwsFirst("setRequired, step", Check.INDEX, x -> x.setRequired(0, 8, true));
+        throwsFirst("setRequired, no task", Check.UNSUPPORTED, x -> x.setRequired(0, 0, true));
+        throwsFirst("setRequired, used", Check.STATE, x -> x.setRequired(0, 1, true));
+        throwsFirst("setLimit, plan", Check.INDEX, x -> x.setLimit(2, 0, 0));
+        throwsFirst("setLimit, step", Check.INDEX, x -> x.setLimit(0, 8, 0));
+        throwsFirst("setLimit, days", Check.ARGUMENT, x -> x.setLimit(0, 0, 0));
+        throwsFirst("setLimit, no task", Check.UNSUPPORTED, x -> x.setLimit(0, 0, 1));
+        throwsFirst("setLimit, used", Check.STATE, x -> x.setLimit(0, 1, 1));
+        throwsFirst("setAgain, plan", Check.INDEX, x -> x.setAgain(2, 0, true));
+        throwsFirst("setAgain, step", Check.INDEX, x -> x.setAgain(0, 8, true));
+        throwsFirst("setAgain, no milestone", Check.UNSUPPORTED, x -> x.setAgain(0, 1, true));
+        throwsFirst("setAgain, used", Check.STATE, x -> x.setAgain(0, 2, true));
+        throwsFirst("begin, plan", Check.INDEX, x -> x.begin(2));
+        throwsFirst("begin, no steps and 4 cases", Check.STATE, x -> x.begin(1));
+        throwsFirst("set, case", Check.INDEX, x -> x.set(4, 4, 100));
+        throwsFirst("set, datum and value", Check.ARGUMENT, x -> x.set(0, 4, 100));
+        throwsFirst("event, case", Check.INDEX, x -> x.event(4, 10));
+        throwsFirst("complete, case", Check.INDEX, x -> x.complete(4, 2));
+        throwsFirst("complete, step", Check.INDEX, x -> x.complete(0, 8));
+        throwsFirst("complete, a milestone that is not active", Check.UNSUPPORTED, x -> x.complete(0, 2));
+        throwsFirst("move, case", Check.INDEX, x -> x.move(4, 1));
+        throwsFirst("move, plan", Check.INDEX, x -> x.move(0, 2));
+        throwsFirst("holds, case", Check.INDEX, x -> x.holds(4, 0, true, 3));
+        throwsFirst("holds, step", Check.INDEX, x -> x.holds(0, 8, false, 3));
+        throwsFirst("datum, case", Check.INDEX, x -> x.datum(4, 4));
     }
 }
