@@ -275,6 +275,18 @@ public final class CaseBoundaryTest {
             x.begin(0);
             Check.same(others + " of 7", x.complete(0, 3), others);
         }
+        CasebookSteps back = Engines.of("mmmt", -1, -1, -1, -1);
+        back.setAgain(0, 0, true);
+        back.setAgain(0, 1, true);
+        back.addEntry(0, 0, 'c', 1, 0);
+        back.addEntry(0, 1, 'e', 1, 0);
+        back.addEntry(0, 1, 'c', 2, 0);
+        back.addEntry(0, 2, 'c', 3, 0);
+        back.begin(0);
+        back.event(0, 1);
+        Check.same("both fall back and come again, and only the third is another one", back.complete(0, 3), 1);
+        Check.same("rounds", back.rounds(0), 3);
+        Check.same("count of the first", back.count(0, 0), 2);
     }
 
     private static void setWaitingCase() {

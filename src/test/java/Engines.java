@@ -40,4 +40,21 @@ final class Engines {
         engine.move(0, 0);
         return engine;
     }
+
+    /**
+     * Milestones that follow one another round for ever, in three turns, once a case is moved to the plan 1; behind
+     * them two tasks.
+     */
+    static CasebookSteps ring(int cases) {
+        CasebookSteps engine = of("mmmmtt", -1, -1, -1, -1, -1, -1);
+        for (int i = 0; i < 3; i++) {
+            engine.addEntry(0, i, 'd', 3, 99);
+        }
+        withPlan(engine, "mmmmtt", -1, -1, -1, -1, -1, -1);
+        for (int i = 0; i < 4; i++) {
+            engine.setAgain(1, i, true);
+            engine.addEntry(1, i, 'c', (i + 1) % 4, 0);
+        }
+        return begun(engine, 0, cases);
+    }
 }

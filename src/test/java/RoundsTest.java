@@ -3,7 +3,9 @@ public final class RoundsTest {
     public static void main(String[] args) {
         endingGoesDown();
         endingStopsAtStepsThatAreOver();
+        endingStopsAtStagesThatWereCompleted();
         milestonesInStagesThatAreOverFallBack();
+        milestonesInEndedStages();
         fallingBackIsAChange();
         activeMilestonesStay();
         Check.end("RoundsTest");
@@ -43,6 +45,51 @@ public final class RoundsTest {
         y.move(0, 1);
         Check.same("the outer stage is completed at once", Check.states(y, 0), "cci");
         Check.same("rounds", y.rounds(0), 1);
+    }
+
+    /** In an outer stage: a stage with a milestone that came and fell back, and a task. */
+    private static CasebookSteps completedInside() {
+        CasebookSteps x = Engines.of("ssmt", -1, 0, 1, 0);
+        x.setAgain(0, 2, true);
+        x.addEntry(0, 2, 'd', 0, 1);
+        x.addExit(0, 0, 'e', 7, 0);
+        x.begin(0);
+        x.set(0, 0, 1);
+        x.set(0, 0, 0);
+        Check.same("idle in a completed stage", Check.states(x, 0), "acia");
+        return x;
+    }
+
+    private static void endingStopsAtStagesThatWereCompleted() {
+        CasebookSteps ended = completedInside();
+        Check.same("the outer stage ends, and its task with it", ended.event(0, 7), 2);
+        Check.same("the completed stage hands nothing down", Check.states(ended, 0), "xcix");
+        CasebookSteps completed = completedInside();
+        Check.same("the outer stage is completed", completed.complete(0, 3), 1);
+        Check.same("the completed stage hands nothing down", Check.states(completed, 0), "ccic");
+    }
+
+    /** One milestone came before its stage ended, the other did not. */
+    private static void milestonesInEndedStages() {
+        CasebookSteps x = Engines.of("smm", -1, 0, 0);
+        x.addExit(0, 0, 'e', 7, 0);
+        for (int step = 1; step <= 2; step++) {
+            x.setAgain(0, step, true);
+            x.addEntry(0, step, 'd', step, 1);
+        }
+        x.begin(0);
+        x.set(0, 1, 1);
+        Check.same("event", x.event(0, 7), 2);
+        Check.same("ended", Check.states(x, 0), "xcx");
+        x.set(0, 2, 1);
+        Check.same("an ended milestone is not entered", Check.states(x, 0), "xcx");
+        x.set(0, 2, 0);
+        Check.same("nor does it fall back", Check.states(x, 0), "xcx");
+        x.set(0, 1, 0);
+        Check.same("a completed one falls back", Check.states(x, 0), "xix");
+        x.set(0, 1, 1);
+        Check.same("and is not entered, as its parent is ended", Check.states(x, 0), "xix");
+        Check.same("count", x.count(0, 1), 1);
     }
 
     private static void fallingBackIsAChange() {

@@ -39,6 +39,7 @@ public final class StateBoundaryTest {
         daysWorkedAnswers();
         noSuchCase("Promise 36: doneShare", x -> number -> x.doneShare(number), 0.0f);
         doneShareAnswers();
+        answersAfterAMove();
         Check.end("StateBoundaryTest");
     }
 
@@ -515,5 +516,72 @@ public final class StateBoundaryTest {
         ended.addExit(0, 0, 't', 0, 0);
         ended.begin(0);
         Check.same("an ended step", ended.doneShare(0), 0.0f);
+    }
+
+    /** Two active tasks and an idle one, moved to a plan of four steps in which the second task is a stage. */
+    private static CasebookSteps movedToFour() {
+        CasebookSteps x = Engines.of("ttt", -1, -1, -1);
+        x.addEntry(0, 2, 'd', 0, 1);
+        Engines.withPlan(x, "tstm", -1, -1, 1, -1);
+        x.addEntry(1, 2, 'd', 1, 5);
+        x.addEntry(1, 2, 'l', 2, -4);
+        x.addExit(1, 0, 't', 7, 0);
+        Engines.begun(x, 0, 2);
+        x.set(0, 3, 9);
+        x.setWaiting(0, true);
+        x.pass(1);
+        x.setWaiting(0, false);
+        x.pass(4);
+        x.move(0, 1);
+        return x;
+    }
+
+    private static void moved(String what, Object due, Function<CasebookSteps, Object> call) {
+        Check.answers(what, due, StateBoundaryTest::movedToFour, call);
+    }
+
+    private static void answersAfterAMove() {
+        Check.sentence("Promises 18 to 36: what a case answers after a move");
+        moved("states", "aaic", x -> Check.states(x, 0));
+        moved("states of the other case", "aai", x -> Check.states(x, 1));
+        moved("active", 2, x -> x.active(0));
+        moved("doneShare, of four steps now", 0.25f, x -> x.doneShare(0));
+        moved("doneShare of the other case", 0.0f, x -> x.doneShare(1));
+        moved("daysWorked, with the clock of the task that is a stage now", 18L, x -> x.daysWorked());
+        moved("clock of the stage", 4, x -> x.clock(0, 1));
+        moved("clockByReplay of the stage", 4, x -> x.clockByReplay(0, 1));
+        moved("planOf", 1, x -> x.planOf(0));
+        moved("planOf the other case", 0, x -> x.planOf(1));
+        moved("datum", 9, x -> x.datum(0, 3));
+        moved("days", 5, x -> x.days(0));
+        moved("isWaiting", false, x -> x.isWaiting(0));
+        moved("happened", 10, x -> x.happened(0));
+        moved("rounds", 1, x -> x.rounds(0));
+        moved("daysLeft", 7, x -> x.daysLeft(0));
+        moved("an entry condition of the new plan", false, x -> x.holds(0, 2, true, 0));
+        moved("the second entry condition", false, x -> x.holds(0, 2, true, 1));
+        moved("one entry condition too many", "NoSuchElementException", x -> x.holds(0, 2, true, 2));
+        moved("an exit condition of the new plan", false, x -> x.holds(0, 0, false, 0));
+        moved("none of the old plan's", "NoSuchElementException", x -> x.holds(1, 2, true, 1));
+        moved("isOver, when those without a parent in the new plan are", true, x -> {
+            x.set(0, 1, 5);
+            x.complete(0, 2);
+            x.complete(0, 0);
+            return x.isOver(0);
+        });
+        moved("isOver, when one of them is not", false, x -> {
+            x.complete(0, 0);
+            return x.isOver(0);
+        });
+        moved("isOver of a waiting case", false, x -> {
+            x.setWaiting(0, true);
+            x.complete(0, 0);
+            return x.isOver(0);
+        });
+        moved("a case waits as before", true, x -> {
+            x.setWaiting(0, true);
+            x.move(0, 1);
+            return x.isWaiting(0);
+        });
     }
 }

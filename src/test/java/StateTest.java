@@ -5,6 +5,7 @@ public final class StateTest {
         clockAndReplay();
         replayTellsCasesApart();
         replayBeginsAnew();
+        replayBeginsWithDataOfZero();
         count();
         isLateAndDaysLeft();
         holds();
@@ -99,6 +100,18 @@ public final class StateTest {
         Check.same("clockByReplay of the second", x.clockByReplay(1, 1), 1);
         Check.same("stateByReplay of the second", x.stateByReplay(1, 0), 'a');
         Check.same("clockByReplay of the first", x.clockByReplay(0, 3), 5);
+    }
+
+    private static void replayBeginsWithDataOfZero() {
+        for (int datum = 0; datum < 4; datum++) {
+            CasebookSteps x = Engines.of("m", -1);
+            x.addEntry(0, 0, 'd', datum, 1);
+            Engines.begun(x, 0, 2);
+            x.set(0, datum, 99);
+            Check.same("stateByReplay of the first", x.stateByReplay(0, 0), 'c');
+            Check.same("stateByReplay of the second, datum " + datum, x.stateByReplay(1, 0), 'i');
+            Check.same("stateByReplay of the first", x.stateByReplay(0, 0), 'c');
+        }
     }
 
     private static void count() {

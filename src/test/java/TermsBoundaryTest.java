@@ -394,26 +394,12 @@ public final class TermsBoundaryTest {
         Check.same("nothing more", x.rounds(0), 0);
     }
 
-    /** Milestones that follow one another round for ever, in three turns, once the plan 1 counts for the case. */
-    private static CasebookSteps ring() {
-        CasebookSteps x = Engines.of("mmmm", -1, -1, -1, -1);
-        for (int i = 0; i < 3; i++) {
-            x.addEntry(0, i, 'd', 3, 99);
-        }
-        Engines.withPlan(x, "mmmm", -1, -1, -1, -1);
-        for (int i = 0; i < 4; i++) {
-            x.setAgain(1, i, true);
-            x.addEntry(1, i, 'c', (i + 1) % 4, 0);
-        }
-        return Engines.begun(x, 0, 1);
-    }
-
     private static void roundsAtMost() {
         Check.sentence("Rounds: but at most 20");
-        CasebookSteps x = ring();
-        Check.same("before", Check.states(x, 0), "iiic");
+        CasebookSteps x = Engines.ring(1);
+        Check.same("before", Check.states(x, 0), "iiicaa");
         x.move(0, 1);
-        String[] turns = {"icii", "iici", "ciic"};
+        String[] turns = {"iciiaa", "iiciaa", "ciicaa"};
         int[] counts = {6, 13, 20};
         for (int turn = 0; turn < 3; turn++) {
             Check.same("rounds", x.rounds(0), 20);
@@ -858,6 +844,7 @@ public final class TermsBoundaryTest {
         Check.refused("stateByReplay", Check.INDEX, made, x -> x.stateByReplay(0, 4));
         Check.refused("clockByReplay", Check.INDEX, made, x -> x.clockByReplay(2, 0));
     }
+
     /** The plan 0 is full and used, its step 0 is a stage with all its conditions, and there are 4 cases. */
     private static CasebookSteps full() {
         CasebookSteps x = Engines.of("stmttttt", -1, 0, -1, -1, -1, -1, -1, -1);
